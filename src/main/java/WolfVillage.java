@@ -21,6 +21,8 @@ public final class WolfVillage {
     // 292 moves of a pair at 8 runner's places, and 40 of the runner at 36 pairs: 16 ways have 32 ends.
     private static final int EDGES = 292 * 8 + 40 * 36;
     private static final int MOST_LENGTH = 999;
+    // Above every length and every number of standings.
+    private static final int ENDLESS = 1 << 30;
 
     private static final int HIDDEN_PLACES = 6, HIDDEN_SETS = 64, HIDDEN_ROUNDS = 12;
 
@@ -193,7 +195,7 @@ public final class WolfVillage {
 
     private int fairestChange() {
         int found = NONE;
-        int nearest = Integer.MAX_VALUE;
+        int nearest = ENDLESS;
         for (int w = 0; w < plan.count; w++) {
             variant.becomes(plan, w);
             standings.solve(variant);
@@ -937,7 +939,7 @@ public final class WolfVillage {
                 if (then < 0) {
                     continue;
                 }
-                int length = lengths[then] < 0 ? Integer.MAX_VALUE : lengths[then];
+                int length = lengths[then] < 0 ? ENDLESS : lengths[then];
                 if (found < 0 || (runners ? length > foundLength : length < foundLength)) {
                     found = m;
                     foundLength = length;
