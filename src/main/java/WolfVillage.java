@@ -1050,26 +1050,24 @@ public final class WolfVillage {
             }
             int product = 1;
             for (int x = 0; x < plan.places; x++) {
-                int names = 0;
+                int namesOfX = 0;
                 for (int y = x; y < plan.places; y++) {
                     forgetNames();
-                    if (keepNamesBelow(x) && give(x, y) && canNameRest(0)) {
-                        names++;
+                    keepNamesBelow(x);
+                    if (give(x, y) && canNameRest(0)) {
+                        namesOfX++;
                     }
                 }
-                product *= names;
+                product *= namesOfX;
             }
             count = product;
             return count;
         }
 
-        private boolean keepNamesBelow(int x) {
+        private void keepNamesBelow(int x) {
             for (int k = 0; k < x; k++) {
-                if (!give(k, k)) {
-                    return false;
-                }
+                give(k, k);
             }
-            return true;
         }
 
         int leastRow(Plan toName, int pair, int r) {

@@ -449,7 +449,7 @@ public final class OracleTest {
             m.hill[k] = chance.nextInt(4) == 0;
             x.ground(k, (m.well[k] ? 1 : 0) + (m.hill[k] ? 2 : 0));
         }
-        int n = chance.nextInt(mostWays + 1);
+        int n = chance.nextInt(4) == 0 ? mostWays : chance.nextInt(mostWays + 1);
         boolean plain = chance.nextInt(3) == 0;
         for (int k = 0; k < n; k++) {
             int kind = plain && chance.nextInt(4) > 0 ? 0 : chance.nextInt(6);
@@ -461,6 +461,11 @@ public final class OracleTest {
             }
             due("way", x.way(kind, a, b), m.ways.size());
             m.ways.add(new Way(kind, a, b));
+        }
+        int less = chance.nextInt(4) == 0 ? chance.nextInt(m.ways.size() + 1) : 0;
+        for (int k = 0; k < less; k++) {
+            m.ways.remove(m.ways.size() - 1);
+            due("unway", x.unway(), m.ways.size());
         }
         return m;
     }
@@ -582,16 +587,25 @@ public final class OracleTest {
         return (seen >> s.r() & 1) != 0 ? 1 << s.r() : known & ~seen;
     }
 
+    /** Seeds in a row give nearly the same first numbers, so they are strewn and some are left out. */
+    private static Random chanceOf(int seed) {
+        Random chance = new Random(seed * 2654435769L);
+        for (int k = 0; k < 10; k++) {
+            chance.nextInt();
+        }
+        return chance;
+    }
+
     public static void main(String[] args) {
         int rounds = args.length > 0 ? Integer.parseInt(args[0]) : 1;
         for (int seed = 1; seed <= 60 * rounds; seed++) {
-            Random chance = new Random(seed);
-            int places = 3 + chance.nextInt(6);
+            Random chance = chanceOf(seed);
+            int places = 3 + seed % 6;
             WolfVillage x = new WolfVillage(places - 3 - 6 * chance.nextInt(3));
             Model m = made(chance, x, places, true, 16);
             String name = "plan " + seed;
             askStandings(m, x, name);
-            if (places < 8 || seed % 4 == 0) {
+            if (places < 8 || seed % 24 == 5) {
                 askTurnings(m, x, name);
             }
             for (int k = 0; k < 5; k++) {
@@ -599,15 +613,15 @@ public final class OracleTest {
             }
         }
         for (int seed = 1; seed <= 60 * rounds; seed++) {
-            Random chance = new Random(-seed);
-            int places = 3 + chance.nextInt(4);
+            Random chance = chanceOf(-seed);
+            int places = 3 + seed % 4;
             WolfVillage x = new WolfVillage(places - 3);
             Model m = made(chance, x, places, false, 10);
             askHidden(m, x, "hidden " + seed);
         }
         for (int seed = 1; seed <= 25 * rounds; seed++) {
-            Random chance = new Random(1000 + seed);
-            int places = 3 + chance.nextInt(seed % 5 == 0 ? 6 : 4);
+            Random chance = chanceOf(1000000 + seed);
+            int places = 3 + seed % (seed % 5 == 0 ? 6 : 4);
             WolfVillage x = new WolfVillage(places - 3);
             Model m = made(chance, x, places, false, seed % 3 == 0 ? 16 : 8);
             m.solve();

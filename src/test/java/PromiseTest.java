@@ -88,6 +88,7 @@ public final class PromiseTest {
         due("3: down", x.unway(), 1);
         due("3: down", x.unway(), 0);
         due("3: no more seen", x.sees(0, 0), 1);
+        due("3: no more seen", x.sees(1, 1), 2);
         due("3: none again", x.unway(), STATE);
         WolfVillage y = pathWithGame();
         y.unway();
@@ -537,6 +538,8 @@ public final class PromiseTest {
         due("24: the tape stays", x.count(6), 5);
         due("25: the first is the rule", x.force(5), 0);
         due("25: which was", x.force(3), 5);
+        due("25: the first again", x.force(0), 3);
+        due("25: the first again", x.force(3), 0);
         due("25: below", x.force(-1), BAD);
         due("25: above", x.force(6), BAD);
         due("25: it stays", x.count(7), 3);
@@ -594,6 +597,10 @@ public final class PromiseTest {
         x.cell(2, 1, 1);
         due("28: all 0 anew", x.sheet(2, 2, 3), 1);
         due("28: 0 0 0 is no way", x.ways(2, 2, 0, 1), 0);
+        x.cell(2, 2, 2);
+        due("28: 0 0 2 is a way", x.ways(2, 2, 0, 1), 1);
+        due("28: of kind 0", x.wayTold(0, 0), 0);
+        due("28: from 0", x.wayTold(0, 1), 0);
     }
 
     private static void cutCells(int sort, int more, int came) {
