@@ -587,6 +587,25 @@ public final class OracleTest {
         return (seen >> s.r() & 1) != 0 ? 1 << s.r() : known & ~seen;
     }
 
+    /** A plan on which some sets take all 12 rounds, and some more. */
+    private static void askDeepHidden() {
+        int[][] ways = {{0, 2, 4}, {0, 0, 1}, {4, 1, 3}, {0, 1, 4}, {1, 0, 4}, {0, 1, 2}, {0, 1, 0}, {4, 3, 1}, {0, 3, 0}, {0, 0, 5}};
+        WolfVillage x = new WolfVillage(3);
+        Model m = new Model();
+        m.p = 6;
+        m.well = new boolean[] {false, false, true, false, false, false};
+        m.hill = new boolean[6];
+        m.sight = 0;
+        x.tell(1, 0);
+        x.ground(2, 1);
+        for (int[] w : ways) {
+            x.way(w[0], w[1], w[2]);
+            m.ways.add(new Way(w[0], w[1], w[2]));
+        }
+        due("twelve rounds", x.sure(1, 1, 21), 12);
+        askHidden(m, x, "deep");
+    }
+
     /** Seeds in a row give nearly the same first numbers, so they are strewn and some are left out. */
     private static Random chanceOf(int seed) {
         Random chance = new Random(seed * 2654435769L);
@@ -616,9 +635,10 @@ public final class OracleTest {
             Random chance = chanceOf(-seed);
             int places = 3 + seed % 4;
             WolfVillage x = new WolfVillage(places - 3);
-            Model m = made(chance, x, places, false, 10);
+            Model m = made(chance, x, places, false, seed % 3 == 0 ? 16 : 10);
             askHidden(m, x, "hidden " + seed);
         }
+        askDeepHidden();
         for (int seed = 1; seed <= 25 * rounds; seed++) {
             Random chance = chanceOf(1000000 + seed);
             int places = 3 + seed % (seed % 5 == 0 ? 6 : 4);
