@@ -470,6 +470,29 @@ public final class OracleTest {
         return m;
     }
 
+    /** Another plan behind answers for the first: what was kept of those must not be answered. */
+    private static void change(Random chance, Model m, WolfVillage x, boolean shutters) {
+        int what = chance.nextInt(4);
+        if (what == 0) {
+            m.hunters = 3 - m.hunters;
+            x.tell(0, m.hunters);
+        } else if (what == 1) {
+            int k = chance.nextInt(m.p);
+            m.well[k] = !m.well[k];
+            x.ground(k, (m.well[k] ? 1 : 0) + (m.hill[k] ? 2 : 0));
+        } else {
+            if (!m.ways.isEmpty()) {
+                m.ways.remove(m.ways.size() - 1);
+                due("unway", x.unway(), m.ways.size());
+            }
+            int[] kinds = shutters && m.shutters().size() < 2 ? new int[] {2, 3, 5} : new int[] {0, 1, 4};
+            Way way = new Way(kinds[chance.nextInt(3)], chance.nextInt(m.p - 1), m.p - 1);
+            due("way", x.way(way.kind(), way.a(), way.b()), m.ways.size());
+            m.ways.add(way);
+        }
+        m.sure.clear();
+    }
+
     private static void askStandings(Model m, WolfVillage x, String name) {
         m.solve();
         for (Standing s : m.all()) {
@@ -630,6 +653,11 @@ public final class OracleTest {
             for (int k = 0; k < 5; k++) {
                 askGame(m, x, chance, name + " game " + k);
             }
+            change(chance, m, x, true);
+            askStandings(m, x, name + " changed");
+            if (places < 8) {
+                askTurnings(m, x, name + " changed");
+            }
         }
         for (int seed = 1; seed <= 60 * rounds; seed++) {
             Random chance = chanceOf(-seed);
@@ -637,6 +665,8 @@ public final class OracleTest {
             WolfVillage x = new WolfVillage(places - 3);
             Model m = made(chance, x, places, false, seed % 3 == 0 ? 16 : 10);
             askHidden(m, x, "hidden " + seed);
+            change(chance, m, x, false);
+            askHidden(m, x, "hidden, changed " + seed);
         }
         askDeepHidden();
         for (int seed = 1; seed <= 25 * rounds; seed++) {
@@ -647,6 +677,8 @@ public final class OracleTest {
             m.solve();
             due("fairer " + seed, x.fairer(), m.fairer());
             due("fairer, then won " + seed, x.solved(0), m.won());
+            change(chance, m, x, false);
+            due("fairer, changed " + seed, x.fairer(), m.fairer());
         }
         System.out.println(asked + " answers, " + wrong + " wrong");
         if (wrong != 0) {
